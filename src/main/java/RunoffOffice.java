@@ -777,9 +777,9 @@ public final class RunoffOffice {
         private boolean fitsWith(int free) {
             below = determinant(free, MOST_FITTED);
             boolean fits = below > 0;
-            for (int k = 0; k < MOST_FITTED; k++) {
+            for (int k = 0; k < size && fits; k++) {
                 above[k] = isFree(free, k) ? determinant(free, k) : 0;
-                fits = fits && above[k] >= 0;
+                fits = above[k] >= 0;
             }
             for (int k = 0; k < size && fits; k++) {
                 pressing[k] = pressOn(k);

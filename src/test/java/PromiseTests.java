@@ -244,6 +244,22 @@ public final class PromiseTests {
         due.is("storms", x.drop(false, 0), 0);
         due.is("no storms", x.drop(false, 0), UNKNOWN);
         counts(x, 0, 4, 0, 9, 5, 0);
+        rowsStayApart();
+    }
+
+    /** Those that come behind one that went write over none that is left. */
+    private static void rowsStayApart() {
+        RunoffOffice x = with("r1:1", "r2:2", "r3:3", "u1:1", "u2:2", "u3:3", "u4:4");
+        x.drop(false, 0);
+        x.drop(true, 0);
+        take(x, "r4:4");
+        take(x, "u1:5");
+        for (int k = 0; k < 3; k++) {
+            due.is("storm " + k + " stays", x.storm(k, 20), k + 2);
+        }
+        for (int k = 0; k < 4; k++) {
+            due.is("unit " + k + " stays", x.unit(k, 10), k + 2);
+        }
     }
 
     private static void row(RunoffOffice x, String what, int storm, int first, int... want) {
@@ -557,7 +573,10 @@ public final class PromiseTests {
         x.drop(true, 0);
         due.is("keep over one that went", x.keep(2, 1, 1), 3);
         due.is("only its own parts", x.unit(3, 2), 1);
-        due.is("keep of 99", with("r1:99").keep(1, 1, 1), 0);
+        RunoffOffice y = with("r1:99,8");
+        due.is("keep of 99", y.keep(1, 2, 1), 0);
+        due.is("99 kept", y.unit(0, 10), 99);
+        due.is("8 kept", y.unit(0, 11), 8);
     }
 
     private static void promise19Count() {
@@ -599,6 +618,15 @@ public final class PromiseTests {
             2, 2, 8, 3, 5, 0, 0, 0, 0, 0, 0,
             1, 1, 9, 9, 0, 0, 0, 0, 0, 0, 0,
             0, 2, 0, 2, 0, 0));
+        RunoffOffice storm = with("r2:4");
+        due.is("digest of a storm", storm.digest(), digestOf(
+            1, 1, 2, 4, 2, 0, 0, 4, 0, 0, 0, 0, 0, 0, 0,
+            1, 2, NONE, NONE, NONE, NONE, NONE, NONE, NONE,
+            2, 1, 0, 1,
+            2, 1, 0, 1, 0, 1,
+            2, 1, 0, 1, 0, 1, 0, 1,
+            2, 1, 0, 1, 0, 1, 0, 1, 0, 1,
+            1, 0, 0, 1, 0, 0));
         RunoffOffice both = with("r2:3", "u1:1", "r1:4,1", "u2:0,2");
         both.letter('r');
         due.is("digest of both", both.digest(), digestOf(
