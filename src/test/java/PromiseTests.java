@@ -1,10 +1,5 @@
 /** One test a promise of the document, by answers worked out by hand. */
-public final class PromiseTests {
-    private static final int NONE = RunoffOffice.NONE, UNKNOWN = RunoffOffice.UNKNOWN,
-        OUTSIDE = RunoffOffice.OUTSIDE, STATE = RunoffOffice.STATE, FULL = RunoffOffice.FULL;
-    private static final int MIN = Integer.MIN_VALUE, MAX = Integer.MAX_VALUE;
-    private static final Due due = new Due();
-
+public final class PromiseTests extends OfficeTests {
     public static void main(String[] args) {
         constants();
         promise1NewObject();
@@ -29,57 +24,6 @@ public final class PromiseTests {
         promise20Digest();
         refusalsChangeNothing();
         due.end("PromiseTests");
-    }
-
-    // ---- helpers
-
-    private static void type(RunoffOffice x, String text) {
-        for (int i = 0; i < text.length(); i++) {
-            x.letter(text.charAt(i));
-        }
-    }
-
-    private static int take(RunoffOffice x, String text) {
-        type(x, text);
-        return x.take();
-    }
-
-    private static RunoffOffice with(String... texts) {
-        RunoffOffice x = new RunoffOffice();
-        for (String text : texts) {
-            due.holds("take of " + text, take(x, text) >= 0);
-        }
-        return x;
-    }
-
-    private static void fraction(String what, long above, long below, long wantAbove, long wantBelow) {
-        due.is(what + " above", above, wantAbove);
-        due.is(what + " below", below, wantBelow);
-    }
-
-    private static void best(RunoffOffice x, int some, int n, int k, long above, long below) {
-        String what = "best(" + some + ", " + n + ", " + k + ")";
-        fraction(what, x.best(some, n, k, 0), x.best(some, n, k, 1), above, below);
-    }
-
-    private static void loss(RunoffOffice x, int some, int n, long above, long below) {
-        fraction("loss(" + some + ", " + n + ")", x.loss(some, n, 0), x.loss(some, n, 1), above, below);
-    }
-
-    private static void press(RunoffOffice x, int some, int n, int k, long above, long below) {
-        String what = "press(" + some + ", " + n + ", " + k + ")";
-        fraction(what, x.press(some, n, k, 0), x.press(some, n, k, 1), above, below);
-    }
-
-    private static void other(RunoffOffice x, int unit, int m, int t, long above, long below) {
-        String what = "other(" + unit + ", " + m + ", " + t + ")";
-        fraction(what, x.other(unit, m, t, 0), x.other(unit, m, t, 1), above, below);
-    }
-
-    private static void counts(RunoffOffice x, int... want) {
-        for (int what = 0; what < want.length; what++) {
-            due.is("count(" + what + ")", x.count(what), want[what]);
-        }
     }
 
     // ---- the promises
