@@ -73,6 +73,7 @@ public final class LanguageTests {
             boolean fixed = Modifier.isStatic(field.getModifiers());
             own += fixed ? 0 : 1;
             due.holds(field + " is final if static", !fixed || Modifier.isFinal(field.getModifiers()));
+            due.holds(field + " is a number if static", !fixed || field.getType() == int.class || field.getType() == long.class);
         }
         due.holds(type + " has at most twenty fields", own <= 20);
         for (Method method : type.getDeclaredMethods()) {
@@ -94,6 +95,23 @@ public final class LanguageTests {
         due.holds("signs 1 to 127", source.chars().allMatch(sign -> sign > 0 && sign < 128));
         methodsAreShort(source);
         nothingIsMadeByCalls(code);
+        onlyMathIsUsed(code);
+    }
+
+    /** Names that begin great and go on small are classes: the file's own, or Math with functions that can't throw. */
+    private static void onlyMathIsUsed(String code) {
+        Set<String> known = new TreeSet<>(Set.of("RunoffOffice", "Math"));
+        for (Class<?> nested : RunoffOffice.class.getDeclaredClasses()) {
+            known.add(nested.getSimpleName());
+        }
+        Matcher name = Pattern.compile("\\b[A-Z][A-Za-z]*[a-z][A-Za-z]*\\b").matcher(code);
+        while (name.find()) {
+            due.holds("a class that may be used: " + name.group(), known.contains(name.group()));
+        }
+        Matcher function = Pattern.compile("\\bMath\\.(\\w+)").matcher(code);
+        while (function.find()) {
+            due.holds("Math." + function.group(1), Set.of("abs", "max", "min").contains(function.group(1)));
+        }
     }
 
     /** A method's head and its closing brace stand at the same depth, and nothing else of it does. */
